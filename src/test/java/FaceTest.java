@@ -1,0 +1,107 @@
+import java.io.IOException;
+import java.lang.reflect.Constructor;
+import java.lang.reflect.Field;
+import java.lang.reflect.Method;
+import java.lang.reflect.Modifier;
+import java.nio.file.Files;
+import java.nio.file.Path;
+import java.util.Set;
+import java.util.TreeSet;
+import java.util.regex.Matcher;
+import java.util.regex.Pattern;
+
+/** The face of the document, member by member, and those rules of LANGUAGE.md that the text or the class shows. */
+public final class FaceTest {
+    private static final String[] METHODS = {
+        "char rock(int,char)", "int sample(int,int)", "int tellTruth(int,int)", "int grade(int)",
+        "int worth(int,int)", "boolean isFree(int)", "boolean isDug(int)", "long pitWorth(int)", "int pitSize(int)",
+        "boolean isInPit(int,int)", "long worthWith(int,int)", "int phase(int)", "int clearPhases()",
+        "int phaseOf(int)", "int set(char,int)", "boolean mix(boolean)", "int goOn(int)", "int week()",
+        "char wentTo(int)", "int dugIn(int)", "int stock()", "int stockGrades()", "int water()", "int recovery()",
+        "long metal()", "long money()", "int tons(char)", "int factor()", "boolean isBalanced()",
+        "float dugShare()", "double meanFed()",
+    };
+
+    /** What no line of the class may hold, and why. */
+    private static final String[][] BANNED = {
+        {"->|::", "a lambda or a method reference (rule 2)"},
+        {"\\b(finally|synchronized|assert|package|record|volatile|transient)\\b", "a word that is left out (rule 6)"},
+        {"\\bMath\\.(?!max\\(|min\\(|abs\\(|floorDiv\\(|floorMod\\()", "a function of Math (rule 4)"},
+        {"\\bcatch\\b", "no call of the class has anything to catch (rule 6)"},
+        {"\\b(System|Thread|Random|Runtime|Class)\\.", "the surroundings (rule 13)"},
+        {"\\bimport (?!java\\.util\\.NoSuchElementException;)", "an import (rule 4)"},
+        {"\"[^\"]*\" *\\+|\\+ *\"", "texts joined by + (rule 10)"},
+    };
+
+    private final Check check = new Check("FaceTest");
+
+    public static void main(String[] args) throws IOException {
+        FaceTest test = new FaceTest();
+        test.members();
+        test.parts();
+        test.text(Files.readString(Path.of("src/main/java/PitForge.java")));
+        test.check.close();
+    }
+
+    private void members() {
+        check.same("the class is public and final", PitForge.class.getModifiers(), Modifier.PUBLIC | Modifier.FINAL);
+        Set<String> open = new TreeSet<>();
+        Set<String> hidden = new TreeSet<>();
+        for (Method m : PitForge.class.getDeclaredMethods()) {
+            if (Modifier.isPrivate(m.getModifiers())) {
+                hidden.add(m.getName());
+            } else {
+                check.same(m.getName() + " is public alone", m.getModifiers(), Modifier.PUBLIC);
+                open.add(signature(m));
+                hidden.remove(m.getName());
+            }
+        }
+        check.same("the methods of the face", open, new TreeSet<>(Set.of(METHODS)));
+        for (String one : METHODS) {
+            String name = one.substring(one.indexOf(' ') + 1, one.indexOf('('));
+            check.same("a private method " + name, hidden.contains(name), false);
+        }
+        for (Field f : PitForge.class.getDeclaredFields()) {
+            check.same(f.getName() + " is private", Modifier.isPrivate(f.getModifiers()), true);
+        }
+        Constructor<?>[] makers = PitForge.class.getDeclaredConstructors();
+        check.same("one constructor", makers.length, 1);
+        check.same("it is public", makers[0].getModifiers(), Modifier.PUBLIC);
+        check.same("it has no parameters", makers[0].getParameterCount(), 0);
+    }
+
+    private static String signature(Method m) {
+        StringBuilder text = new StringBuilder(m.getReturnType().getName()).append(' ').append(m.getName()).append('(');
+        for (Class<?> type : m.getParameterTypes()) {
+            text.append(text.charAt(text.length() - 1) == '(' ? "" : ",").append(type.getName());
+        }
+        return text.append(')').toString();
+    }
+
+    private void parts() {
+        Class<?>[] parts = PitForge.class.getDeclaredClasses();
+        check.same("at most eleven classes inside", parts.length <= 11, true);
+        for (Class<?> part : parts) {
+            int is = part.getModifiers();
+            check.same(part.getName() + " is static and closed", Modifier.isStatic(is) && !Modifier.isPublic(is), true);
+            check.same(part.getName() + " has some twenty fields", part.getDeclaredFields().length <= 20, true);
+            for (Field f : part.getDeclaredFields()) {
+                boolean still = !Modifier.isStatic(f.getModifiers()) || Modifier.isFinal(f.getModifiers());
+                check.same(part.getName() + "." + f.getName() + " is no static state", still, true);
+            }
+        }
+    }
+
+    private void text(String text) {
+        for (int i = 0; i < text.length(); i++) {
+            if (text.charAt(i) > 126) {
+                check.same("the sign at " + i, (int) text.charAt(i), 0);
+            }
+        }
+        String bare = text.replaceAll("(?s)/\\*.*?\\*/", "").replaceAll("//[^\n]*", "");
+        for (String[] rule : BANNED) {
+            Matcher found = Pattern.compile(rule[0]).matcher(bare);
+            check.same(rule[1], found.find() ? found.group() : "", "");
+        }
+    }
+}
