@@ -18,6 +18,7 @@ public final class PitsTest {
         test.edges();
         test.twoLensesShareTheirWaste();
         test.dugBlocksAreNoPart();
+        test.eachQuestionAlone();
         test.wrongPrices();
         test.worthWith();
         test.phase();
@@ -109,6 +110,21 @@ public final class PitsTest {
         check.same("it is 3", mine.isDug(3), true);
         pit("with one of four dug", mine, 10, 30, 4, 5, 14);
         check.same("worthWith as well", mine.worthWith(10, 14), 30L);
+    }
+
+    private void eachQuestionAlone() {
+        check.same("pitWorth first", Mines.withLens(14, 34).pitWorth(10), 10L);
+        check.same("pitSize first", Mines.withLens(14, 34).pitSize(10), 4);
+        check.same("isInPit first", Mines.withLens(14, 34).isInPit(10, 14), true);
+        PitForge mine = Mines.withLens(14, 34);
+        check.same("at one price", mine.pitSize(10), 4);
+        check.same("at a lower one", mine.pitSize(9), 0);
+        check.same("in it at the first price", mine.isInPit(10, 5), true);
+        check.same("not at the lower one", mine.isInPit(9, 5), false);
+        check.same("its worth at the first price", mine.pitWorth(10), 10L);
+        check.same("its worth at a higher one", mine.pitWorth(11), 34L * 11 - 200 - 40 - 90);
+        mine.sample(14, 40);
+        check.same("its worth behind a sample", mine.pitWorth(10), 370L - 330);
     }
 
     private void wrongPrices() {

@@ -34,8 +34,8 @@ public final class RandomRunsTest {
     }
 
     private void runAll() {
-        for (int i = 0; i < CALLS && check.wrong() == 0; i++) {
-            if (i < 8 * (manner + 1)) {
+        while (calls.size() < CALLS - 3 && check.wrong() == 0) {
+            if (calls.size() < 20 * (manner + 1)) {
                 tell();
             } else {
                 any();
@@ -67,10 +67,10 @@ public final class RandomRunsTest {
         int b = pick(0, 59);
         int g = chance.nextInt(3) == 0 ? pick(0, 99) : pick(5, 40);
         char r = kind("sh");
-        switch (chance.nextInt(4)) {
+        switch (chance.nextInt(6)) {
             case 0 -> compare("rock " + b + " " + r, () -> mine.rock(b, r), () -> due.rock(b, r));
             case 1 -> compare("tellTruth " + b + " " + g, () -> mine.tellTruth(b, g), () -> due.tellTruth(b, g));
-            case 2 -> compare("sample " + b + " " + g, () -> mine.sample(b, g), () -> due.sample(b, g));
+            case 2, 3, 4 -> compare("sample " + b + " " + g, () -> mine.sample(b, g), () -> due.sample(b, g));
             default -> tellPhase();
         }
     }
@@ -87,7 +87,8 @@ public final class RandomRunsTest {
     private void any() {
         switch (chance.nextInt(12)) {
             case 0 -> tell();
-            case 1, 2 -> askBlock();
+            case 1 -> askAfterRock();
+            case 2 -> askBlock();
             case 3, 4 -> askPit();
             case 5 -> change();
             case 6, 7 -> pass();
@@ -124,6 +125,17 @@ public final class RandomRunsTest {
             case 4 -> compare("wentTo " + b, () -> mine.wentTo(b), () -> due.wentTo(b));
             case 5 -> compare("dugIn " + b, () -> mine.dugIn(b), () -> due.dugIn(b));
             default -> compare("phaseOf " + b, () -> mine.phaseOf(b), () -> due.phaseOf(b));
+        }
+    }
+
+    /** The phases of some blocks right behind a rock that was told. */
+    private void askAfterRock() {
+        int b = pick(0, 59);
+        char r = kind("sh");
+        compare("rock " + b + " " + r, () -> mine.rock(b, r), () -> due.rock(b, r));
+        for (int i = 0; i < 3; i++) {
+            int near = pick(0, 59);
+            compare("phaseOf " + near, () -> mine.phaseOf(near), () -> due.phaseOf(near));
         }
     }
 

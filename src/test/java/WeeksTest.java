@@ -20,6 +20,7 @@ public final class WeeksTest {
         test.flood();
         test.floodAtTheTop();
         test.floodBounds();
+        test.floodByEachColumn();
         test.wentToAndDugIn();
         test.haulage();
         test.trueGradeByTheModel();
@@ -210,6 +211,27 @@ public final class WeeksTest {
         check.same("the level 2 is under water", mine.goOn(1), 0);
     }
 
+    private void floodByEachColumn() {
+        for (int column = 0; column < 10; column++) {
+            PitForge mine = Mines.withLens(10 + column, 99);
+            mine.rock(10 + column, 'h');
+            mine.phase(5);
+            mine.set('r', 51);
+            mine.set('w', 0);
+            check.same("two blocks of the column " + column, mine.goOn(1), 2);
+            mine.sample(20 + column, 99);
+            mine.rock(20 + column, 'h');
+            mine.phase(9);
+            check.same("the next is in a phase, " + column, mine.phaseOf(20 + column), 1);
+            check.same("no other block is, " + column, mine.goOn(4), 0);
+            check.same("under water by the column " + column, mine.isDug(20 + column), false);
+            mine.set('w', 99);
+            mine.set('r', 0);
+            mine.goOn(10);
+            check.same("pumped dry for the column " + column, mine.isDug(20 + column), true);
+        }
+    }
+
     private void wentToAndDugIn() {
         PitForge mine = Mines.withTruths(20, 10, 9);
         for (int block : new int[] {-1, 60, Integer.MIN_VALUE, Integer.MAX_VALUE}) {
@@ -322,6 +344,22 @@ public final class WeeksTest {
         thirds.set('p', 3);
         thirds.goOn(2);
         check.same("a third more: 89.67", thirds.recovery(), 90);
+        PitForge fewer = Mines.withTruths(60, 40, 39, 38);
+        fewer.set('s', 2);
+        fewer.goOn(1);
+        fewer.set('s', 1);
+        fewer.goOn(1);
+        check.same("one block behind two", fewer.recovery(), 79);
+        check.same("metal of one block behind two", fewer.metal(), 540L + 360 + 308);
+        fewer.set('p', 3);
+        fewer.goOn(1);
+        check.same("one less", fewer.recovery(), 89);
+        PitForge more = Mines.withTruths(50, 39, 39);
+        more.set('s', 1);
+        more.goOn(1);
+        more.set('s', 2);
+        more.goOn(1);
+        check.same("two blocks behind one", more.recovery(), 79);
         PitForge near = Mines.withTruths(20, 20, 59, 59);
         near.set('s', 2);
         near.goOn(2);
@@ -512,6 +550,26 @@ public final class WeeksTest {
         check.same("50 of 99", mine.factor(), 50);
         mine.goOn(2);
         check.same("60 of 297", mine.factor(), 20);
+        PitForge waste = Mines.withLens(14, 40);
+        waste.sample(4, 1);
+        waste.sample(4, 1);
+        waste.phase(10);
+        waste.set('s', 1);
+        waste.tellTruth(3, 99);
+        check.same("the model of a waste block", waste.grade(3), 0);
+        check.same("the model of the next", waste.grade(4), 1);
+        waste.goOn(1);
+        check.same("a block was dug", waste.isDug(3), true);
+        check.fails("the model had nothing for it", NOTHING, () -> waste.factor());
+        PitForge one = Mines.withLens(14, 40);
+        one.sample(4, 1);
+        one.sample(4, 1);
+        one.rock(14, 'h');
+        one.tellTruth(4, 99);
+        one.phase(10);
+        one.set('s', 1);
+        one.goOn(1);
+        check.same("99 of 1", one.factor(), 9900);
         PitForge more = Mines.withTruths(99, 99, 99, 99);
         more.clearPhases();
         more.phase(3);
@@ -533,6 +591,11 @@ public final class WeeksTest {
             check.same("behind the week " + i, mine.isBalanced(), true);
         }
         check.same("all dug", mine.dugShare(), 1.0f);
+        PitForge quick = Mines.withLens(25, 99);
+        quick.phase(10);
+        quick.set('s', 9);
+        check.same("three levels in one week", quick.goOn(1), 9);
+        check.same("by the order of digging", quick.isBalanced(), true);
     }
 
     private void figures() {
@@ -543,8 +606,11 @@ public final class WeeksTest {
         mine.goOn(1);
         check.fails("meanFed without room", NOTHING, () -> mine.meanFed());
         check.same("dugShare of three", mine.dugShare(), 3f / 60f);
-        mine.set('p', 3);
+        mine.set('p', 1);
         mine.set('s', 0);
+        mine.goOn(1);
+        check.same("meanFed of one", mine.meanFed(), 50.0);
+        mine.set('p', 2);
         mine.goOn(1);
         check.same("meanFed of three", mine.meanFed(), 106.0 / 3.0);
         mine.set('s', 1);
