@@ -221,16 +221,16 @@ public final class PitForge {
     }
 
     public int tons(char kind) throws IllegalArgumentException {
-        switch (kind) {
-            case 'p':
-                return TONS * plant.allFed;
-            case 's':
-                return TONS * pile.count();
-            case 'd':
-                return TONS * books.dumped;
-            default:
-                throw new IllegalArgumentException("no such kind");
+        if (kind == 'p') {
+            return TONS * plant.allFed;
         }
+        if (kind == 's') {
+            return TONS * pile.count();
+        }
+        if (kind == 'd') {
+            return TONS * books.dumped;
+        }
+        throw new IllegalArgumentException("no such kind");
     }
 
     public int factor() throws ArithmeticException {
@@ -264,7 +264,7 @@ public final class PitForge {
         phases.refresh();
         plant.openWeek();
         int dry = dryLevels();
-        for (int i = 0; i < numbers.shovel; i++) {
+        for (int i = 0; i < numbers.current('s'); i++) {
             int block = nextBlock(dry);
             if (block < 0) {
                 break;
@@ -272,8 +272,8 @@ public final class PitForge {
             digOut(block);
         }
         feedFromPile();
-        books.balance += plant.closeWeek() * numbers.market / 10 - (long) MILLING * plant.fedNow;
-        int pumped = sump.rainAndPump(numbers.rain, numbers.pump);
+        books.balance += plant.closeWeek() * numbers.current('m') / 10 - (long) MILLING * plant.fedNow;
+        int pumped = sump.rainAndPump(numbers.current('r'), numbers.current('w'));
         books.balance -= PUMPING * ((pumped + 9) / 10);
         books.weeksPassed++;
     }
@@ -317,10 +317,10 @@ public final class PitForge {
     }
 
     private void haul(int block, int real) {
-        if (real >= numbers.cutOff && plant.fedNow < numbers.plantRoom) {
+        if (real >= numbers.current('c') && plant.fedNow < numbers.current('p')) {
             plant.feed(real);
             books.notePlace(block, 'p');
-        } else if (real >= numbers.lowCutOff) {
+        } else if (real >= numbers.current('l')) {
             pile.put(real);
             books.notePlace(block, 's');
         } else {
@@ -330,7 +330,7 @@ public final class PitForge {
     }
 
     private void feedFromPile() {
-        for (int i = plant.fedNow; i < numbers.plantRoom && pile.count() > 0; i++) {
+        for (int i = plant.fedNow; i < numbers.current('p') && pile.count() > 0; i++) {
             plant.feed(pile.give());
         }
     }
@@ -739,74 +739,36 @@ public final class PitForge {
 
     /** The numbers that the mine is run by. */
     private static final class Numbers {
-        private int shovel = 3;
-        private int plantRoom = 2;
-        private int cutOff = 20;
-        private int lowCutOff = 10;
-        private int market = 10;
-        private int rain = 10;
-        private int pump = 5;
+        private static final char[] KINDS = {'s', 'p', 'c', 'l', 'm', 'r', 'w'};
+        private static final int[] MOST = {MOST_A_WEEK, MOST_A_WEEK, HIGHEST, HIGHEST, HIGHEST, HIGHEST, HIGHEST};
+
+        private final int[] values = {3, 2, 20, 10, 10, 10, 5};
 
         /** The greatest number of a kind, or -1 if there is no such kind. */
         int mostFor(char kind) {
-            switch (kind) {
-                case 's':
-                case 'p':
-                    return MOST_A_WEEK;
-                case 'c':
-                case 'l':
-                case 'm':
-                case 'r':
-                case 'w':
-                    return HIGHEST;
-                default:
-                    return -1;
-            }
+            int at = indexOf(kind);
+            return at >= 0 && at < MOST.length ? MOST[at] : -1;
         }
 
         int current(char kind) {
-            switch (kind) {
-                case 's':
-                    return shovel;
-                case 'p':
-                    return plantRoom;
-                case 'c':
-                    return cutOff;
-                case 'l':
-                    return lowCutOff;
-                case 'm':
-                    return market;
-                case 'r':
-                    return rain;
-                default:
-                    return pump;
-            }
+            int at = indexOf(kind);
+            return at >= 0 && at < values.length ? values[at] : 0;
         }
 
         void change(char kind, int to) {
-            switch (kind) {
-                case 's':
-                    shovel = to;
-                    break;
-                case 'p':
-                    plantRoom = to;
-                    break;
-                case 'c':
-                    cutOff = to;
-                    break;
-                case 'l':
-                    lowCutOff = to;
-                    break;
-                case 'm':
-                    market = to;
-                    break;
-                case 'r':
-                    rain = to;
-                    break;
-                default:
-                    pump = to;
-                    break;
+            int at = indexOf(kind);
+            if (at >= 0 && at < values.length) {
+                values[at] = to;
             }
+        }
+
+        private static int indexOf(char kind) {
+            for (int i = 0; i < KINDS.length; i++) {
+                if (KINDS[i] == kind) {
+                    return i;
+                }
+            }
+            return -1;
         }
     }
 
@@ -873,7 +835,7 @@ public final class PitForge {
     /** The plant: what it had this week, and in all weeks. */
     private static final class Plant {
         private static final int BEST_RECOVERY = 90;
-        private static final double LEAST_RECOVERY = 50.0;
+        private static final int LEAST_RECOVERY = 50;
 
         private final int[] grades = new int[MOST_A_WEEK];
         private int fedNow;
@@ -919,8 +881,9 @@ public final class PitForge {
 
         private int recoveryAt(double mean) {
             double change = mean < lastMean ? lastMean - mean : mean - lastMean;
+            double least = (double) LEAST_RECOVERY;
             double left = (double) BEST_RECOVERY - change;
-            return toNearest(left < LEAST_RECOVERY ? LEAST_RECOVERY : left);
+            return toNearest(left < least ? least : left);
         }
     }
 

@@ -87,6 +87,9 @@ public final class FaceTest {
             for (Field f : part.getDeclaredFields()) {
                 boolean still = !Modifier.isStatic(f.getModifiers()) || Modifier.isFinal(f.getModifiers());
                 check.same(part.getName() + "." + f.getName() + " is no static state", still, true);
+                boolean broken = f.getType() == double.class || f.getType() == float.class;
+                check.same(part.getName() + "." + f.getName() + " is a constant left out (rule 5)",
+                        broken && Modifier.isStatic(f.getModifiers()), false);
             }
         }
     }
