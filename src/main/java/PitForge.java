@@ -264,7 +264,8 @@ public final class PitForge {
         phases.refresh();
         plant.openWeek();
         int dry = dryLevels();
-        for (int i = 0; i < numbers.current('s'); i++) {
+        int shovel = numbers.current('s');
+        for (int i = 0; i < shovel; i++) {
             int block = nextBlock(dry);
             if (block < 0) {
                 break;
@@ -330,7 +331,8 @@ public final class PitForge {
     }
 
     private void feedFromPile() {
-        for (int i = plant.fedNow; i < numbers.current('p') && pile.count() > 0; i++) {
+        int room = numbers.current('p');
+        for (int i = plant.fedNow; i < room && pile.count() > 0; i++) {
             plant.feed(pile.give());
         }
     }
@@ -473,12 +475,10 @@ public final class PitForge {
 
     /** The samples, and the model of the blocks by them. */
     private static final class Ore {
-        private static final int UNKNOWN = -1;
-
         private final int[] sampleBlock = new int[MOST_SAMPLES];
         private final int[] sampleGrade = new int[MOST_SAMPLES];
-        // searching pits asks for each grade many times between two samples; without any sample each is 0, as it stands
-        private final int[] known = new int[BLOCKS];
+        // reckoned anew at each sample, for searching pits asks for each grade many times between two of them
+        private final int[] modelled = new int[BLOCKS];
         private int samples;
 
         boolean isFull() {
@@ -493,18 +493,12 @@ public final class PitForge {
             sampleGrade[samples] = grade;
             samples++;
             for (int i = 0; i < BLOCKS; i++) {
-                known[i] = UNKNOWN;
+                modelled[i] = toNearest(meanFor(i));
             }
         }
 
         int estimate(int block) {
-            if (!isBlock(block)) {
-                return 0;
-            }
-            if (known[block] == UNKNOWN) {
-                known[block] = toNearest(meanFor(block));
-            }
-            return known[block];
+            return isBlock(block) ? modelled[block] : 0;
         }
 
         int valueOf(int block, int price) {
@@ -576,15 +570,11 @@ public final class PitForge {
         }
 
         void find(int price) {
-            for (int column = 0; column < COLUMNS; column++) {
-                measure(column, price);
-                if (column > 0) {
-                    joinLeft(column);
-                }
-            }
+            measureColumns(price);
+            joinColumns();
             int last = COLUMNS - 1;
             int best = bestDepth(last, 0, LEVELS);
-            int total = best < 0 ? 0 : score[last][best];
+            int total = isDepth(best) ? score[last][best] : 0;
             readDepths(best);
             foundWorth = ((long) total + foundSize) / SCALE;
         }
@@ -598,36 +588,49 @@ public final class PitForge {
             return level >= top[column] && level < depth[column];
         }
 
-        /** Fills a column's row of scores with what its own blocks give. */
-        private void measure(int column, int price) {
-            int first = ground.dugInColumn(column);
-            int own = 0;
-            int ask = 0;
-            top[column] = first;
-            for (int deep = 0; deep <= LEVELS; deep++) {
-                if (deep > first) {
-                    int block = (deep - 1) * COLUMNS + column;
-                    own += SCALE * ore.valueOf(block, price) - 1;
-                    ask = ground.isHard(block) ? ask : deep - 1;
+        private static boolean isDepth(int deep) {
+            return deep >= 0 && deep <= LEVELS;
+        }
+
+        /** Fills each column's row of scores with what its own blocks give. */
+        private void measureColumns(int price) {
+            for (int column = 0; column < COLUMNS; column++) {
+                int first = ground.dugInColumn(column);
+                int own = 0;
+                int ask = 0;
+                top[column] = first;
+                for (int deep = 0; deep <= LEVELS; deep++) {
+                    if (deep > first) {
+                        int block = (deep - 1) * COLUMNS + column;
+                        own += SCALE * ore.valueOf(block, price) - 1;
+                        ask = ground.isHard(block) ? ask : deep - 1;
+                    }
+                    asks[column][deep] = ask;
+                    score[column][deep] = deep < first ? NONE : own;
+                    left[column][deep] = -1;
                 }
-                asks[column][deep] = ask;
-                score[column][deep] = deep < first ? NONE : own;
-                left[column][deep] = -1;
             }
         }
 
-        private void joinLeft(int column) {
-            for (int deep = top[column]; deep <= LEVELS; deep++) {
-                int beside = bestDepth(column - 1, asks[column][deep], deep);
-                left[column][deep] = beside;
-                score[column][deep] = beside < 0 ? NONE : score[column][deep] + score[column - 1][beside];
+        /** Adds to each column's scores the best that the columns to the left can give beside it. */
+        private void joinColumns() {
+            for (int column = 1; column < COLUMNS; column++) {
+                for (int deep = 0; deep <= LEVELS; deep++) {
+                    int beside = bestDepth(column - 1, asks[column][deep], deep);
+                    boolean joins = score[column][deep] != NONE && isDepth(beside);
+                    left[column][deep] = beside;
+                    score[column][deep] = joins ? score[column][deep] + score[column - 1][beside] : NONE;
+                }
             }
         }
 
         /** The depth, from a least one on, that has a column's best score and asks no more than a most; or -1. */
         private int bestDepth(int column, int least, int most) {
+            if (column < 0 || column >= COLUMNS) {
+                return -1;
+            }
             int found = -1;
-            for (int deep = least; deep <= LEVELS; deep++) {
+            for (int deep = Math.max(least, 0); deep <= LEVELS; deep++) {
                 boolean fits = score[column][deep] != NONE && asks[column][deep] <= most;
                 if (fits && (found < 0 || score[column][deep] > score[column][found])) {
                     found = deep;
@@ -642,7 +645,7 @@ public final class PitForge {
             for (int column = COLUMNS - 1; column >= 0; column--) {
                 depth[column] = Math.max(deep, top[column]);
                 foundSize += depth[column] - top[column];
-                deep = deep < 0 || deep > LEVELS ? -1 : left[column][deep];
+                deep = isDepth(deep) ? left[column][deep] : -1;
             }
         }
 

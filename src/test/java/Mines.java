@@ -1,3 +1,5 @@
+import java.util.Arrays;
+
 /** Mines that several tests begin with. */
 final class Mines {
     private Mines() { }
@@ -34,6 +36,43 @@ final class Mines {
                 }
             }
         }
+        return mine;
+    }
+
+    /** A mine in which just these blocks of the level 0 have been dug; its phases are cleared. */
+    static PitForge dugAtTop(int... columns) {
+        PitForge mine = new PitForge();
+        for (int block = 0; block < 30; block++) {
+            int at = block;
+            mine.sample(block, Arrays.stream(columns).anyMatch(c -> c == at) ? 99 : 0);
+        }
+        mine.phase(3);
+        mine.set('s', 10);
+        mine.goOn(1);
+        mine.clearPhases();
+        return mine;
+    }
+
+    /** A mine in the midst of its work: 40 samples, four phases, a heap with layers behind it, water, some blocks dug. */
+    static PitForge busy() {
+        PitForge mine = new PitForge();
+        for (int i = 0; i < 37; i++) {
+            mine.sample(7 * i % 60, 40 + 31 * i % 60);
+        }
+        mine.rock(12, 'h');
+        mine.rock(25, 'h');
+        for (int i = 0; i < 16; i++) {
+            mine.tellTruth(i, 13 * (i + 3) % 100);
+        }
+        for (int price = 4; price <= 7; price++) {
+            mine.phase(price);
+        }
+        mine.set('s', 4);
+        mine.set('p', 1);
+        mine.mix(true);
+        mine.goOn(2);
+        mine.mix(false);
+        mine.goOn(1);
         return mine;
     }
 }
