@@ -27,7 +27,9 @@ final class Check {
         try {
             return call.run();
         } catch (RuntimeException e) {
-            return "throws " + e.getClass().getSimpleName();
+            // the class is to see a divisor of 0 itself; the machine's other exceptions have names of their own
+            String by = "/ by zero".equals(e.getMessage()) ? "throws by the machine " : "throws ";
+            return by + e.getClass().getSimpleName();
         }
     }
 

@@ -24,6 +24,7 @@ public final class EdgesTest {
         test.phase();
         test.clearPhases();
         test.phaseOf();
+        test.phaseOfNow();
         test.set();
         test.mix();
         test.goOn();
@@ -249,6 +250,30 @@ public final class EdgesTest {
             check.same("no phase any more", mine.phaseOf(4), -1);
             check.same("nothing to dig", mine.goOn(1), 0);
         }
+    }
+
+    /** Promise 15: 'the phase of a block as of now': behind each sample, rock and week. */
+    private void phaseOfNow() {
+        PitForge mine = Mines.withLens(14, 32);
+        mine.phase(10);
+        check.same("ten too little", mine.phaseOf(14), -1);
+        mine.sample(14, 36);
+        check.same("behind a sample", mine.phaseOf(14), 0);
+        mine.sample(14, 22);
+        check.same("behind another", mine.phaseOf(14), -1);
+        mine.rock(14, 'h');
+        check.same("behind a rock", mine.phaseOf(14), 0);
+        mine.rock(14, 's');
+        check.same("behind another rock", mine.phaseOf(14), -1);
+        PitForge dug = Mines.withLens(4, 24);
+        dug.phase(10);
+        dug.tellTruth(4, 99);
+        dug.rock(14, 'h');
+        check.same("below, worth nothing", dug.phaseOf(14), -1);
+        dug.goOn(1);
+        dug.sample(14, 99);
+        check.same("behind a week", dug.phaseOf(14), 0);
+        check.same("the dug one", dug.phaseOf(4), -1);
     }
 
     /** Promise 15: 'Returns the phase, from 0, or -1 if it is in none, or has been dug.' */
@@ -488,6 +513,16 @@ public final class EdgesTest {
         PitForge zero = Mines.withTruths(0, 0, 0);
         zero.goOn(1);
         check.same("nothing of 297", zero.factor(), 0);
+        PitForge one = Mines.withLens(14, 50);
+        one.sample(3, 3);
+        one.phase(10);
+        one.tellTruth(3, 99);
+        check.same("the mean of 0 and 3 goes to the even one", one.grade(3), 2);
+        one.sample(3, 0);
+        check.same("the least that the model can have", one.grade(3), 1);
+        one.set('s', 1);
+        one.goOn(1);
+        check.same("99 of 1", one.factor(), 9900);
     }
 
     /** Promise 30: nothing dug, all dug, and the stockpile emptied. */
@@ -504,6 +539,11 @@ public final class EdgesTest {
         PitForge waste = Mines.withTruths(0, 0, 0);
         waste.goOn(1);
         check.same("all in the dump", waste.isBalanced(), true);
+        PitForge quick = Mines.withLens(24, 99);
+        quick.phase(10);
+        quick.set('s', 9);
+        check.same("three levels in one week", quick.goOn(1), 9);
+        check.same("by the order of digging", quick.isBalanced(), true);
     }
 
     /** Promise 31: 'their number divided by 60, both converted to float': 0, 1, 7 and 60 of them. */

@@ -5,7 +5,9 @@ import java.lang.reflect.Method;
 import java.lang.reflect.Modifier;
 import java.nio.file.Files;
 import java.nio.file.Path;
+import java.util.Map;
 import java.util.Set;
+import java.util.TreeMap;
 import java.util.TreeSet;
 import java.util.regex.Matcher;
 import java.util.regex.Pattern;
@@ -39,7 +41,9 @@ public final class FaceTest {
         FaceTest test = new FaceTest();
         test.members();
         test.parts();
-        test.text(Files.readString(Path.of("src/main/java/PitForge.java")));
+        String text = Files.readString(Path.of("src/main/java/PitForge.java"));
+        test.text(text);
+        test.methods(text);
         test.check.close();
     }
 
@@ -105,5 +109,34 @@ public final class FaceTest {
             Matcher found = Pattern.compile(rule[0]).matcher(bare);
             check.same(rule[1], found.find() ? found.group() : "", "");
         }
+    }
+
+    /** Rule 11 by the names of the methods: their parameters, their lines, and how deep their calls go. */
+    private void methods(String text) {
+        Map<String, String> bodies = new TreeMap<>();
+        Matcher head = Pattern.compile("\n( +)(?:[\\w\\[\\]]+ )*(\\w+)\\(([^()]*)\\)[^;{}()]*\\{\n").matcher(text);
+        while (head.find()) {
+            String body = text.substring(head.end(), text.indexOf("\n" + head.group(1) + "}", head.end() - 1));
+            if (!Pattern.matches("if|for|while|switch", head.group(2))) {
+                check.same(head.group(2) + " has at most 7 parameters", head.group(3).split(",").length <= 7, true);
+                check.same(head.group(2) + " has at most 60 lines", body.split("\n").length <= 60, true);
+                bodies.merge(head.group(2), body, String::concat);
+            }
+        }
+        check.same("all methods were found", bodies.keySet().containsAll(Set.of("goOn", "markNeeded", "noteGrades")), true);
+        for (String name : bodies.keySet()) {
+            check.same("the calls of " + name + " go at most eight deep", depth(name, bodies, 0) <= 8, true);
+        }
+    }
+
+    private static int depth(String name, Map<String, String> bodies, int above) {
+        int deepest = 0;
+        Matcher call = Pattern.compile("(?<!new )\\b(\\w+)\\(").matcher(bodies.get(name));
+        while (call.find() && above < 20) {
+            if (bodies.containsKey(call.group(1))) {
+                deepest = Math.max(deepest, depth(call.group(1), bodies, above + 1));
+            }
+        }
+        return deepest + 1;
     }
 }

@@ -413,6 +413,12 @@ public final class TermsWeekTest {
         one.set('p', 3);
         one.goOn(2);
         check.same("a third more: 89.67", one.recovery(), 90);
+        PitForge fewer = Mines.withTruths(60, 30, 30, 40);
+        fewer.set('p', 3);
+        fewer.goOn(1);
+        fewer.set('s', 1);
+        fewer.goOn(1);
+        check.same("one block of 40 behind three of 40", fewer.recovery(), 90);
     }
 
     /** 'that of the last week in which it had something': a grade of 0 is something, an idle week is not. */
@@ -493,6 +499,16 @@ public final class TermsWeekTest {
         none.set('s', 1);
         none.goOn(1);
         check.same("a grade of 0", none.metal(), 0L);
+        PitForge fewer = Mines.withTruths(60, 60, 60, 60, 60);
+        fewer.set('p', 10);
+        fewer.goOn(1);
+        check.same("three of 600 at 90", fewer.metal(), 3L * 540);
+        fewer.set('s', 1);
+        fewer.goOn(1);
+        check.same("one more behind three", fewer.metal(), 4L * 540);
+        fewer.set('s', 0);
+        fewer.goOn(1);
+        check.same("none behind one", fewer.metal(), 4L * 540);
     }
 
     /** 'The money grows by the metal times the price of the market, 10 at first, divided by 10, cut'. */
