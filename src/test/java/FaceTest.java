@@ -35,6 +35,11 @@ public final class FaceTest {
         {"\"[^\"]*\" *\\+|\\+ *\"", "texts joined by + (rule 10)"},
     };
 
+    /** All calls live in one room: only a field, the constructor and a refusal (rule 6) make something. */
+    private static final String MADE = " {8}private final \\S+ \\w+ = new .*;| {8}\\w+ = new \\w+\\(.*\\);"
+            + "| +throw new (IllegalState|IllegalArgument|IndexOutOfBounds|Arithmetic|UnsupportedOperation|NoSuchElement)"
+            + "Exception\\(\"[a-z ]+\"\\);";
+
     private final Check check = new Check("FaceTest");
 
     public static void main(String[] args) throws IOException {
@@ -42,9 +47,29 @@ public final class FaceTest {
         test.members();
         test.parts();
         String text = Files.readString(Path.of("src/main/java/PitForge.java"));
+        test.lines(text, Files.readString(Path.of("../shared/DOC.md")));
         test.text(text);
         test.methods(text);
         test.check.close();
+    }
+
+    /** Each line of the document's face stands in the text, in its order, and each heading ahead of its calls. */
+    private void lines(String text, String document) {
+        int from = document.indexOf("```java\n") + "```java\n".length();
+        String[] face = document.substring(from, document.indexOf("```", from)).split("\n");
+        check.same("the lines of the face", face.length, 36);
+        int at = 0;
+        for (String line : face) {
+            String head = line.replaceAll("\\) *(throws [^;]*)?;$", ") $1").strip();
+            int found = line.isBlank() || line.equals("}") ? at : text.indexOf(head, at);
+            check.same("the class has, in its order, " + head, found >= at, true);
+            at = Math.max(found, at);
+        }
+        Matcher ahead = Pattern.compile("Ahead of the calls `(\\w+)`.* the interface says: (---- .*)\\.").matcher(document);
+        while (ahead.find()) {
+            String heading = "    // " + ahead.group(2) + "\n\n    public \\w+ " + ahead.group(1) + "\\(";
+            check.same(ahead.group(2), Pattern.compile(heading).matcher(text).find(), true);
+        }
     }
 
     private void members() {
@@ -108,6 +133,11 @@ public final class FaceTest {
         for (String[] rule : BANNED) {
             Matcher found = Pattern.compile(rule[0]).matcher(bare);
             check.same(rule[1], found.find() ? found.group() : "", "");
+        }
+        for (String line : bare.split("\n")) {
+            if (line.matches(".*\\bnew\\b.*")) {
+                check.same("made in the constructor, or an exception: " + line, line.matches(MADE), true);
+            }
         }
     }
 
